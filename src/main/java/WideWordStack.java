@@ -346,18 +346,15 @@ public final class WideWordStack {
             }
         }
 
-        /** What has no room in the product is cut off; the product is a row of its own. */
+        /** Of rows of the same length; what has no room in the product, a row of its own, is cut off. */
         static void multiply(long[] a, long[] b, long[] product) {
             Arrays.fill(product, 0L);
-            for (int i = 0; i < a.length; i++) {
+            for (int i = 0; i < product.length; i++) {
                 long carry = 0;
-                for (int j = 0; j < b.length && i + j < product.length; j++) {
+                for (int j = 0; i + j < product.length; j++) {
                     long digit = a[i] * b[j] + product[i + j] + carry;
                     product[i + j] = digit & MASK;
                     carry = digit >>> BITS;
-                }
-                if (i + b.length < product.length) {
-                    product[i + b.length] = carry;
                 }
             }
         }
