@@ -11,6 +11,15 @@ final class Model {
     final List<BigInteger> words = new ArrayList<>();
     String text = "";
 
+    Model(BigInteger... topFirst) {
+        words.addAll(List.of(topFirst));
+    }
+
+    /** The same text as Words.state. */
+    String state() {
+        return Words.state(Words.listed(words.toArray(new BigInteger[0])), text);
+    }
+
     static int taken(int operation) {
         if (operation == 16 || operation == 20) {
             return 1;

@@ -5,7 +5,7 @@ import java.util.List;
 public final class RunsTest {
     private static final Check CHECK = new Check("RunsTest");
     private static final int RUNS = 4000;
-    // Reading a whole state takes up to 130 calls, and an object is good for 512.
+    // Reading a whole state takes up to 131 calls, and an object is good for 512.
     private static final int MOST_CALLS = 320;
     private static final List<BigInteger> EDGES = Words.edges();
 
@@ -53,16 +53,7 @@ public final class RunsTest {
         for (int i = 0; i < calls; i++) {
             call();
         }
-        due("(the stack)", Words.stackText(stack), joined());
-        due("(the text)", Words.text(stack), model.text);
-    }
-
-    private String joined() {
-        StringBuilder all = new StringBuilder();
-        for (BigInteger word : model.words) {
-            all.append(all.length() == 0 ? "" : " ").append(word);
-        }
-        return all.toString();
+        due("(the state)", Words.state(stack), model.state());
     }
 
     private void due(String call, String got, String want) {
@@ -74,10 +65,10 @@ public final class RunsTest {
         int kind = next(30);
         if (kind < 8) {
             BigInteger word = nextWord();
-            due("push " + word, Check.answer(() -> Words.push(stack, word)), model.push(word));
+            due("push " + word, Check.answer(stack, s -> Words.push(s, word)), model.push(word));
         } else if (kind < 13) {
             int operation = next(27) - 1;
-            due("wrapping " + operation, Check.answer(() -> stack.wrapping(operation)), model.wrapping(operation));
+            due("wrapping " + operation, Check.answer(stack, s -> s.wrapping(operation)), model.wrapping(operation));
         } else if (kind < 17) {
             exactCall(kind, next(20) == 0 ? next(9) - 2 : next(5), next(2) == 0);
         } else if (kind < 23) {
@@ -90,35 +81,35 @@ public final class RunsTest {
     private void exactCall(int kind, int operation, boolean signed) {
         String named = operation + " " + signed;
         if (kind == 13) {
-            due("checked " + named, Check.answer(() -> stack.checked(operation, signed)),
+            due("checked " + named, Check.answer(stack, s -> s.checked(operation, signed)),
                     model.checked(operation, signed));
         } else if (kind == 14) {
-            due("nearest " + named, Check.answer(() -> stack.nearest(operation, signed)),
+            due("nearest " + named, Check.answer(stack, s -> s.nearest(operation, signed)),
                     model.nearest(operation, signed));
         } else {
-            due("fits " + named, Check.answer(() -> stack.fits(operation, signed)), model.fits(operation, signed));
+            due("fits " + named, Check.answer(stack, s -> s.fits(operation, signed)), model.fits(operation, signed));
         }
     }
 
     private void stackCall(int kind, int k, int i) {
         switch (kind) {
             case 17:
-                due("copy " + k, Check.answer(() -> stack.copy(k)), model.copy(k));
+                due("copy " + k, Check.answer(stack, s -> s.copy(k)), model.copy(k));
                 break;
             case 18:
-                due("swap " + k, Check.answer(() -> stack.swap(k)), model.swap(k));
+                due("swap " + k, Check.answer(stack, s -> s.swap(k)), model.swap(k));
                 break;
             case 19:
-                due("drop", Check.answer(stack::drop), model.drop());
+                due("drop", Check.answer(stack, WideWordStack::drop), model.drop());
                 break;
             case 20:
-                due("limb " + k + " " + i, Check.answer(() -> stack.limb(k, i)), model.limb(k, i));
+                due("limb " + k + " " + i, Check.answer(stack, s -> s.limb(k, i)), model.limb(k, i));
                 break;
             case 21:
-                due("width " + k, Check.answer(() -> stack.width(k)), model.width(k));
+                due("width " + k, Check.answer(stack, s -> s.width(k)), model.width(k));
                 break;
             default:
-                due("depth", Check.answer(stack::depth), model.depth());
+                due("depth", Check.answer(stack, WideWordStack::depth), model.depth());
                 break;
         }
     }
@@ -126,26 +117,26 @@ public final class RunsTest {
     private void textCall(int kind, int k, boolean hex) {
         switch (kind) {
             case 23:
-                due("print " + k + " " + hex, Check.answer(() -> stack.print(k, hex)), model.print(k, hex));
+                due("print " + k + " " + hex, Check.answer(stack, s -> s.print(k, hex)), model.print(k, hex));
                 break;
             case 24:
-                due("encode " + k, Check.answer(() -> stack.encode(k)), model.encode(k));
+                due("encode " + k, Check.answer(stack, s -> s.encode(k)), model.encode(k));
                 break;
             case 25:
-                due("parse " + hex, Check.answer(() -> stack.parse(hex)), model.parse(hex));
+                due("parse " + hex, Check.answer(stack, s -> s.parse(hex)), model.parse(hex));
                 break;
             case 26:
-                due("decode", Check.answer(stack::decode), model.decode());
+                due("decode", Check.answer(stack, WideWordStack::decode), model.decode());
                 break;
             case 27:
                 keyCalls();
                 break;
             case 28:
-                due("letter " + k, Check.answer(() -> stack.letter(k)), model.letter(k));
+                due("letter " + k, Check.answer(stack, s -> s.letter(k)), model.letter(k));
                 break;
             default:
                 if (next(3) == 0) {
-                    due("clear", Check.answer(stack::clear), model.clear());
+                    due("clear", Check.answer(stack, WideWordStack::clear), model.clear());
                 }
                 break;
         }
@@ -154,6 +145,6 @@ public final class RunsTest {
     private void keyCalls() {
         String likely = "0123456789abcdefx\u0000\u0001\u007f\u0080\u0081\u0082\u00a0\u00ff\u0100";
         char c = likely.charAt(next(likely.length()));
-        due("key " + (int) c, Check.answer(() -> stack.key(c)), model.key(c));
+        due("key " + (int) c, Check.answer(stack, s -> s.key(c)), model.key(c));
     }
 }

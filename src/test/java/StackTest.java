@@ -1,143 +1,339 @@
 import java.math.BigInteger;
 
-/** Promises 1 to 8: the stack itself. */
+/** Promises 1 to 8 and the terms of the stack, a test for each sentence. */
 public final class StackTest {
     private static final Check CHECK = new Check("StackTest");
+    private static final String STATE = "throws.IllegalStateException";
+    private static final String INDEX = "throws.IndexOutOfBoundsException";
+    // A text that no call of these promises may touch.
+    private static final String KEPT = "kept";
 
     public static void main(String[] args) {
-        newObject();
-        push();
-        copy();
-        swap();
-        drop();
-        depth();
-        limb();
-        width();
+        CHECK.sentence("Terms: A WORD is a whole number 0 .. 2^256 - 1", StackTest::leastAndGreatestWord);
+        CHECK.sentence("Terms: Its LIMBS 0 .. 3 are its 64-bit parts, the highest first", StackTest::highestLimbFirst);
+        CHECK.sentence("Terms: as longs (of which only the bits count)", StackTest::onlyBitsCount);
+        CHECK.sentence("Terms: The STACK has at most 12 words", StackTest::atMostTwelve);
+        CHECK.sentence("Terms: word 0 is the top, word 1 the one below it", StackTest::wordsFromTheTop);
+        CHECK.sentence("Promise 1: An empty stack", StackTest::newStackIsEmpty);
+        CHECK.sentence("Promise 1: an empty text", StackTest::newTextIsEmpty);
+        pushSentences();
+        copySentences();
+        swapSentences();
+        dropSentences();
+        CHECK.sentence("Promise 6: How many words there are", StackTest::depthOfEach);
+        limbSentences();
+        widthSentences();
         CHECK.finish();
     }
 
-    private static void newObject() {
-        WideWordStack stack = new WideWordStack();
-        CHECK.due("depth() of a new object", stack.depth(), 0);
-        CHECK.due("width(0) of a new object", stack.width(0), -1);
-        CHECK.due("letter(0) of a new object", stack.letter(0), -1);
-        CHECK.due("clear() of a new object", stack.clear(), 0);
-        WideWordStack other = new WideWordStack();
-        other.push(1, 2, 3, 4);
-        other.key('a');
-        CHECK.due("depth() beside another object", stack.depth(), 0);
-        CHECK.due("letter(0) beside another object", stack.letter(0), -1);
+    private static WideWordStack of(Number... words) {
+        return Words.type(Words.stackOf(words), KEPT);
     }
 
-    private static void push() {
+    private static WideWordStack upTo(int n) {
+        return Words.type(Words.upTo(n), KEPT);
+    }
+
+    /** Numbers that are no word's when there are n, the nearest ones first. */
+    private static int[] noWordsOf(int n) {
+        return new int[] {-1, n, n + 1, -n - 1, 99, Integer.MAX_VALUE, Integer.MIN_VALUE, Integer.MIN_VALUE + 11};
+    }
+
+    private static void leastAndGreatestWord() {
         WideWordStack stack = new WideWordStack();
-        for (int n = 1; n <= 12; n++) {
-            CHECK.due("push number " + n, stack.push(-n, n, Long.MIN_VALUE + n, Long.MAX_VALUE - n), n);
+        stack.push(0, 0, 0, 0);
+        stack.push(-1, -1, -1, -1);
+        CHECK.due("the two words", Words.stackText(stack), Words.MOST + " 0");
+        CHECK.due("width of the greatest", stack.width(0), 256);
+        CHECK.due("width of the least", stack.width(1), 0);
+        stack.print(0, false);
+        CHECK.due("numeral of the greatest", Words.text(stack),
+                "115792089237316195423570985008687907853269984665640564039457584007913129639935");
+    }
+
+    private static void highestLimbFirst() {
+        WideWordStack stack = new WideWordStack();
+        stack.push(0x0001020304050607L, 0x08090a0b0c0d0e0fL, 0x1011121314151617L, 0x18191a1b1c1d1e1fL);
+        stack.print(0, true);
+        CHECK.due("numeral of it", Words.text(stack), "0x1020304050607" + "08090a0b0c0d0e0f" + "1011121314151617"
+                + "18191a1b1c1d1e1f");
+        CHECK.due("limb 0", stack.limb(0, 0), 0x0001020304050607L);
+        CHECK.due("limb 3", stack.limb(0, 3), 0x18191a1b1c1d1e1fL);
+    }
+
+    private static void onlyBitsCount() {
+        long[] limbs = {-1L, Long.MIN_VALUE, Long.MAX_VALUE, 0xffffffff00000000L, 0x80000000L, -0x80000000L};
+        for (long limb : limbs) {
+            for (int i = 0; i < 4; i++) {
+                WideWordStack stack = new WideWordStack();
+                stack.push(i == 0 ? limb : 0, i == 1 ? limb : 0, i == 2 ? limb : 0, i == 3 ? limb : 0);
+                BigInteger bits = new BigInteger(Long.toUnsignedString(limb)).shiftLeft(64 * (3 - i));
+                stack.print(0, false);
+                CHECK.due("numeral of limb " + i + " " + limb, Words.text(stack), bits);
+                for (int j = 0; j < 4; j++) {
+                    CHECK.due("limb(0, " + j + ") of limb " + i + " " + limb, stack.limb(0, j), i == j ? limb : 0L);
+                }
+            }
         }
-        CHECK.due("push number 13", Check.answer(() -> stack.push(0, 0, 0, 0)), "throws.IllegalStateException");
-        CHECK.due("depth() after 13 pushes", stack.depth(), 12);
+    }
+
+    private static void atMostTwelve() {
+        CHECK.keeps("push of a thirteenth", upTo(12), s -> s.push(0, 0, 0, 13), STATE);
+        CHECK.keeps("copy of a thirteenth", upTo(12), s -> s.copy(0), STATE);
+        CHECK.keeps("parse of a thirteenth", Words.type(Words.upTo(12), "13"), s -> s.parse(false), STATE);
+        CHECK.keeps("decode of a thirteenth", Words.type(Words.upTo(12), "\r"), WideWordStack::decode, STATE);
+        CHECK.leaves("push of a twelfth", upTo(11), s -> s.push(0, 0, 0, 12), 12, "12 " + Words.listedUpTo(11), KEPT);
+        CHECK.leaves("copy of a twelfth", upTo(11), s -> s.copy(10), 12, "11 " + Words.listedUpTo(11), KEPT);
+        CHECK.leaves("NOT of a full stack", upTo(12), s -> s.wrapping(20), 12,
+                Words.listed(-2, 2, 3, 4, 5, 6, 7, 8, 9, 10, 11, 12), KEPT);
+    }
+
+    private static void wordsFromTheTop() {
+        WideWordStack stack = new WideWordStack();
+        for (int n = 12; n >= 1; n--) {
+            stack.push(n, 2L * n, 3L * n, 4L * n);
+        }
         for (int k = 0; k < 12; k++) {
-            int n = 12 - k;
-            CHECK.due("limb(" + k + ", 0)", stack.limb(k, 0), (long) -n);
-            CHECK.due("limb(" + k + ", 1)", stack.limb(k, 1), (long) n);
-            CHECK.due("limb(" + k + ", 2)", stack.limb(k, 2), Long.MIN_VALUE + n);
-            CHECK.due("limb(" + k + ", 3)", stack.limb(k, 3), Long.MAX_VALUE - n);
+            for (int i = 0; i < 4; i++) {
+                CHECK.due("limb(" + k + ", " + i + ")", stack.limb(k, i), (i + 1L) * (k + 1));
+            }
         }
     }
 
-    private static void copy() {
-        WideWordStack stack = Words.stackOf(5, -6, 7);
-        CHECK.due("copy(2)", stack.copy(2), 4);
-        CHECK.due("stack after copy(2)", Words.stackText(stack), "7 5 " + Words.word(-6) + " 7");
-        CHECK.due("copy(0)", stack.copy(0), 5);
-        stack.wrapping(20);
-        CHECK.due("word 1 after its copy changed", Words.read(stack, 1), 7);
-        for (int k : new int[] {-1, 5, 12, Integer.MIN_VALUE, Integer.MAX_VALUE}) {
-            CHECK.due("copy(" + k + ") of 5", Check.answer(() -> stack.copy(k)), "throws.IndexOutOfBoundsException");
-        }
-        CHECK.due("copy(0) of none", Check.answer(() -> new WideWordStack().copy(0)),
-                "throws.IndexOutOfBoundsException");
-        WideWordStack full = Words.full();
-        CHECK.due("copy(11) of 12", Check.answer(() -> full.copy(11)), "throws.IllegalStateException");
-        CHECK.due("copy(12) of 12", Check.answer(() -> full.copy(12)), "throws.IndexOutOfBoundsException");
-        CHECK.due("copy(-1) of 12", Check.answer(() -> full.copy(-1)), "throws.IndexOutOfBoundsException");
-        CHECK.due("stack after refused copies", Words.stackText(full), "1 2 3 4 5 6 7 8 9 10 11 12");
+    private static void newStackIsEmpty() {
+        CHECK.keeps("depth() of a new object", new WideWordStack(), WideWordStack::depth, 0);
+        CHECK.keeps("width(0) of a new object", new WideWordStack(), s -> s.width(0), -1);
+        CHECK.keeps("limb(0, 0) of a new object", new WideWordStack(), s -> s.limb(0, 0), INDEX);
+        CHECK.keeps("drop() of a new object", new WideWordStack(), WideWordStack::drop, STATE);
+        WideWordStack stack = new WideWordStack();
+        upTo(12);
+        CHECK.due("depth() after another object's pushes", stack.depth(), 0);
     }
 
-    private static void swap() {
-        WideWordStack full = Words.full();
-        CHECK.due("swap(11)", full.swap(11), 11);
-        CHECK.due("stack after swap(11)", Words.stackText(full), "12 2 3 4 5 6 7 8 9 10 11 1");
-        CHECK.due("swap(0)", full.swap(0), 0);
-        CHECK.due("swap(3)", full.swap(3), 3);
-        CHECK.due("stack after swap(3)", Words.stackText(full), "4 2 3 12 5 6 7 8 9 10 11 1");
-        for (int k : new int[] {-1, 12, Integer.MIN_VALUE, Integer.MAX_VALUE}) {
-            CHECK.due("swap(" + k + ")", Check.answer(() -> full.swap(k)), "throws.IndexOutOfBoundsException");
-        }
-        CHECK.due("stack after refused swaps", Words.stackText(full), "4 2 3 12 5 6 7 8 9 10 11 1");
-        CHECK.due("swap(0) of none", Check.answer(() -> new WideWordStack().swap(0)),
-                "throws.IndexOutOfBoundsException");
-        BigInteger wide = Words.edges().get(Words.edges().size() - 1);
-        WideWordStack two = Words.stackOf(wide, wide.not().mod(Words.END));
-        two.swap(1);
-        CHECK.due("word 1 after swap(1)", Words.read(two, 1), wide);
-        CHECK.due("word 0 after swap(1)", Words.read(two, 0), wide.not().mod(Words.END));
+    private static void newTextIsEmpty() {
+        CHECK.keeps("letter(0) of a new object", new WideWordStack(), s -> s.letter(0), -1);
+        CHECK.keeps("clear() of a new object", new WideWordStack(), WideWordStack::clear, 0);
+        CHECK.keeps("parse() of a new object", new WideWordStack(), s -> s.parse(false),
+                "throws.IllegalArgumentException");
+        WideWordStack stack = new WideWordStack();
+        upTo(1);
+        CHECK.due("letter(0) after another object's keys", stack.letter(0), -1);
     }
 
-    private static void drop() {
-        WideWordStack stack = Words.stackOf(1, 2, 3);
-        CHECK.due("drop() of 3", stack.drop(), 2);
-        CHECK.due("stack after drop()", Words.stackText(stack), "2 3");
-        CHECK.due("drop() of 2", stack.drop(), 1);
-        CHECK.due("drop() of 1", stack.drop(), 0);
-        CHECK.due("drop() of none", Check.answer(stack::drop), "throws.IllegalStateException");
-        CHECK.due("depth() after a refused drop", stack.depth(), 0);
-        WideWordStack full = Words.full();
-        full.drop();
-        CHECK.due("push after drop() of 12", Words.push(full, 77), 12);
-        CHECK.due("top after drop and push", Words.read(full, 0), 77);
+    private static void pushSentences() {
+        CHECK.sentence("Promise 2: Puts the word with the limbs a, b, c, d on top", StackTest::pushPutsOnTop);
+        CHECK.sentence("Promise 2: Answers how many words there are then", StackTest::pushAnswersHowMany);
+        CHECK.sentence("Promise 2: IllegalStateException when there are 12", StackTest::pushOnTwelve);
     }
 
-    private static void depth() {
+    private static void pushPutsOnTop() {
+        BigInteger word = Words.power(192).add(Words.power(129)).add(Words.power(64)).add(Words.power(2));
+        CHECK.leaves("push(1, 2, 1, 4) on none", of(), s -> s.push(1, 2, 1, 4), 1, word.toString(), KEPT);
+        CHECK.leaves("push(1, 2, 1, 4) on 7 8", of(7, 8), s -> s.push(1, 2, 1, 4), 3, word + " 7 8", KEPT);
+        CHECK.leaves("push(0, 0, 0, 0)", of(7), s -> s.push(0, 0, 0, 0), 2, "0 7", KEPT);
+        WideWordStack reused = of(-1);
+        reused.drop();
+        CHECK.leaves("push where a word was dropped", reused, s -> s.push(0, 0, 0, 3), 1, "3", KEPT);
+    }
+
+    private static void pushAnswersHowMany() {
         WideWordStack stack = new WideWordStack();
         for (int n = 1; n <= 12; n++) {
-            Words.push(stack, n);
-            CHECK.due("depth() of " + n, stack.depth(), n);
-        }
-        stack.wrapping(8);
-        CHECK.due("depth() after MULMOD", stack.depth(), 10);
-    }
-
-    private static void limb() {
-        WideWordStack stack = new WideWordStack();
-        stack.push(1, -2, Long.MIN_VALUE, Long.MAX_VALUE);
-        stack.push(0x0123456789abcdefL, 0xfedcba9876543210L, 0x80000000L, 0x7fffffff80000000L);
-        long[] lower = {1, -2, Long.MIN_VALUE, Long.MAX_VALUE};
-        long[] upper = {0x0123456789abcdefL, 0xfedcba9876543210L, 0x80000000L, 0x7fffffff80000000L};
-        for (int i = 0; i < 4; i++) {
-            CHECK.due("limb(1, " + i + ")", stack.limb(1, i), lower[i]);
-            CHECK.due("limb(0, " + i + ")", stack.limb(0, i), upper[i]);
-        }
-        int[][] none = {{2, 0}, {-1, 0}, {0, 4}, {0, -1}, {1, 4}, {2, 4}, {Integer.MAX_VALUE, 0},
-            {Integer.MIN_VALUE, 0}, {0, Integer.MAX_VALUE}, {0, Integer.MIN_VALUE}};
-        for (int[] at : none) {
-            CHECK.due("limb(" + at[0] + ", " + at[1] + ")", Check.answer(() -> stack.limb(at[0], at[1])),
-                    "throws.IndexOutOfBoundsException");
+            CHECK.due("push number " + n, stack.push(-n, n, 0, n), n);
         }
     }
 
-    private static void width() {
+    private static void pushOnTwelve() {
+        CHECK.keeps("push(5, 6, 7, 8) on 12", upTo(12), s -> s.push(5, 6, 7, 8), STATE);
+        CHECK.keeps("push(0, 0, 0, 0) on 12", upTo(12), s -> s.push(0, 0, 0, 0), STATE);
+        WideWordStack again = upTo(12);
+        CHECK.due("push on 12", Check.answer(again, s -> s.push(9, 9, 9, 9)), STATE);
+        again.drop();
+        CHECK.leaves("push after a refused one and drop()", again, s -> s.push(0, 0, 0, 1), 12, Words.listedUpTo(12), KEPT);
+    }
+
+    private static void copySentences() {
+        CHECK.sentence("Promise 3: Puts a copy of word k on top", StackTest::copyPutsOnTop);
+        CHECK.sentence("Promise 3: Answers how many words there are then", StackTest::copyAnswersHowMany);
+        CHECK.sentence("Promise 3: IndexOutOfBoundsException when there is no word k", StackTest::copyOfNoWord);
+        CHECK.sentence("Promise 3: IllegalStateException when there are 12", StackTest::copyOnTwelve);
+        CHECK.sentence("Promise 3: no word k and 12 words, the first exception", StackTest::copyOfNoWordOnTwelve);
+    }
+
+    private static void copyPutsOnTop() {
+        CHECK.leaves("copy(0) of 5", of(5), s -> s.copy(0), 2, "5 5", KEPT);
+        CHECK.leaves("copy(1)", of(5, 6, 7), s -> s.copy(1), 4, "6 5 6 7", KEPT);
+        CHECK.leaves("copy(2)", of(5, -6, -7), s -> s.copy(2), 4,
+                Words.listed(-7, 5, -6, -7), KEPT);
+        WideWordStack stack = of(5, 6);
+        stack.copy(0);
+        stack.wrapping(20);
+        CHECK.due("the stack after the copy changed", Words.stackText(stack), Words.listed(-6, 5, 6));
+    }
+
+    private static void copyAnswersHowMany() {
+        for (int n = 1; n <= 11; n++) {
+            for (int k = 0; k < n; k++) {
+                int word = k;
+                CHECK.leaves("copy(" + k + ") of " + n, upTo(n), s -> s.copy(word), n + 1,
+                        (k + 1) + " " + Words.listedUpTo(n), KEPT);
+            }
+        }
+    }
+
+    private static void copyOfNoWord() {
+        for (int n = 0; n <= 11; n++) {
+            for (int k : noWordsOf(n)) {
+                CHECK.keeps("copy(" + k + ") of " + n, upTo(n), s -> s.copy(k), INDEX);
+            }
+        }
+    }
+
+    private static void copyOnTwelve() {
+        for (int k = 0; k < 12; k++) {
+            int word = k;
+            CHECK.keeps("copy(" + k + ") of 12", upTo(12), s -> s.copy(word), STATE);
+        }
+    }
+
+    private static void copyOfNoWordOnTwelve() {
+        for (int k : noWordsOf(12)) {
+            CHECK.keeps("copy(" + k + ") of 12", upTo(12), s -> s.copy(k), INDEX);
+        }
+    }
+
+    private static void swapSentences() {
+        CHECK.sentence("Promise 4: Words 0 and k change places", StackTest::swapChangesPlaces);
+        CHECK.sentence("Promise 4: Answers k", StackTest::swapAnswersK);
+        CHECK.sentence("Promise 4: IndexOutOfBoundsException when there is no word k", StackTest::swapOfNoWord);
+    }
+
+    private static void swapChangesPlaces() {
+        CHECK.leaves("swap(0) of one", of(5), s -> s.swap(0), 0, "5", KEPT);
+        CHECK.leaves("swap(0) of two", of(5, 6), s -> s.swap(0), 0, "5 6", KEPT);
+        CHECK.leaves("swap(1) of two", of(-5, 6), s -> s.swap(1), 1, Words.listed(6, -5), KEPT);
+        CHECK.leaves("swap(11) of 12", upTo(12), s -> s.swap(11), 11, "12 2 3 4 5 6 7 8 9 10 11 1", KEPT);
+        CHECK.leaves("swap(3) of 12", upTo(12), s -> s.swap(3), 3, "4 2 3 1 5 6 7 8 9 10 11 12", KEPT);
+        BigInteger wide = new BigInteger("f0123456789abcdef1123456789abcdef2123456789abcdef3123456789abcde", 16);
+        WideWordStack two = of(wide, wide.not());
+        CHECK.leaves("swap(1) of wide words", two, s -> s.swap(1), 1, Words.listed(wide.not(), wide), KEPT);
+    }
+
+    private static void swapAnswersK() {
+        for (int k = 0; k < 12; k++) {
+            int word = k;
+            CHECK.due("swap(" + k + ") of 12", Check.answer(upTo(12), s -> s.swap(word)), k);
+        }
+    }
+
+    private static void swapOfNoWord() {
+        for (int n = 0; n <= 12; n++) {
+            for (int k : noWordsOf(n)) {
+                CHECK.keeps("swap(" + k + ") of " + n, upTo(n), s -> s.swap(k), INDEX);
+            }
+        }
+    }
+
+    private static void dropSentences() {
+        CHECK.sentence("Promise 5: Takes the top away", StackTest::dropTakesTheTop);
+        CHECK.sentence("Promise 5: Answers how many words there are then", StackTest::dropAnswersHowMany);
+        CHECK.sentence("Promise 5: IllegalStateException when there is none", StackTest::dropOfNone);
+    }
+
+    private static void dropTakesTheTop() {
+        CHECK.leaves("drop() of 5 6 7", of(5, 6, 7), WideWordStack::drop, 2, "6 7", KEPT);
+        CHECK.leaves("drop() of 5", of(5), WideWordStack::drop, 0, "", KEPT);
+        CHECK.leaves("drop() of 12", upTo(12), WideWordStack::drop, 11, "2 3 4 5 6 7 8 9 10 11 12", KEPT);
+    }
+
+    private static void dropAnswersHowMany() {
+        WideWordStack stack = upTo(12);
+        for (int n = 11; n >= 0; n--) {
+            CHECK.due("drop() of " + (n + 1), Check.answer(stack, WideWordStack::drop), n);
+        }
+    }
+
+    private static void dropOfNone() {
+        CHECK.keeps("drop() of none", of(), WideWordStack::drop, STATE);
+        WideWordStack emptied = of(5);
+        emptied.drop();
+        CHECK.keeps("drop() of none any more", emptied, WideWordStack::drop, STATE);
+        CHECK.leaves("push after a refused drop()", emptied, s -> s.push(0, 0, 0, 6), 1, "6", KEPT);
+    }
+
+    private static void depthOfEach() {
+        for (int n = 0; n <= 12; n++) {
+            CHECK.keeps("depth() of " + n, upTo(n), WideWordStack::depth, n);
+        }
+    }
+
+    private static void limbSentences() {
+        CHECK.sentence("Promise 7: Limb i of word k", StackTest::limbOfEach);
+        CHECK.sentence("Promise 7: IndexOutOfBoundsException when there is no such word", StackTest::limbOfNoWord);
+        CHECK.sentence("Promise 7: IndexOutOfBoundsException when there is no such limb", StackTest::noSuchLimb);
+    }
+
+    private static void limbOfEach() {
+        long[] limbs = {1, -2, Long.MIN_VALUE, Long.MAX_VALUE};
+        for (int below = 0; below < 12; below++) {
+            int k = below;
+            WideWordStack stack = Words.type(new WideWordStack(), KEPT);
+            stack.push(limbs[0], limbs[1], limbs[2], limbs[3]);
+            for (int n = 0; n < below; n++) {
+                stack.push(5, 6, 7, 8);
+            }
+            for (int i = 0; i < 4; i++) {
+                CHECK.due("limb(" + k + ", " + i + ")", stack.limb(k, i), limbs[i]);
+            }
+            CHECK.keeps("limb(" + k + ", 0)", stack, s -> s.limb(k, 0), 1);
+        }
+    }
+
+    private static void limbOfNoWord() {
+        for (int n = 0; n <= 12; n++) {
+            for (int k : noWordsOf(n)) {
+                int i = Math.floorMod(k, 4);
+                CHECK.keeps("limb(" + k + ", " + i + ") of " + n, upTo(n), s -> s.limb(k, i), INDEX);
+            }
+        }
+    }
+
+    private static void noSuchLimb() {
+        for (int i : new int[] {-1, 4, 5, -4, 8, Integer.MAX_VALUE, Integer.MIN_VALUE}) {
+            for (int k : new int[] {0, 1, 11}) {
+                CHECK.keeps("limb(" + k + ", " + i + ") of 12", upTo(12), s -> s.limb(k, i), INDEX);
+            }
+            CHECK.keeps("limb(1, " + i + ") of 1", of(5), s -> s.limb(1, i), INDEX);
+            CHECK.keeps("limb(0, " + i + ") of none", of(), s -> s.limb(0, i), INDEX);
+        }
+    }
+
+    private static void widthSentences() {
+        CHECK.sentence("Promise 8: How many bits word k has without zeros in front", StackTest::widthOfEachPower);
+        CHECK.sentence("Promise 8: (0 for 0)", StackTest::widthOfZero);
+        CHECK.sentence("Promise 8: -1 when there is no such word", StackTest::widthOfNoWord);
+    }
+
+    private static void widthOfEachPower() {
         for (int bit = 0; bit < 256; bit++) {
-            BigInteger power = BigInteger.ONE.shiftLeft(bit);
-            WideWordStack stack = Words.stackOf(power, power.subtract(BigInteger.ONE));
-            CHECK.due("width of 2^" + bit, stack.width(0), bit + 1);
-            CHECK.due("width of 2^" + bit + " - 1", stack.width(1), bit);
+            BigInteger power = Words.power(bit);
+            WideWordStack stack = Words.stackOf(power, power.subtract(BigInteger.ONE), Words.MOST);
+            CHECK.keeps("width(0) of 2^" + bit, stack, s -> s.width(0), bit + 1);
+            CHECK.due("width(1) of 2^" + bit + " - 1", stack.width(1), bit);
+            CHECK.due("width(2) of the greatest word", stack.width(2), 256);
         }
-        WideWordStack stack = Words.stackOf(-1, 0);
-        CHECK.due("width of -1", stack.width(0), 256);
-        CHECK.due("width of 0", stack.width(1), 0);
-        for (int k : new int[] {2, -1, Integer.MIN_VALUE, Integer.MAX_VALUE}) {
-            CHECK.due("width(" + k + ") of 2", stack.width(k), -1);
+    }
+
+    private static void widthOfZero() {
+        CHECK.keeps("width(0) of 0", of(0), s -> s.width(0), 0);
+        CHECK.keeps("width(1) of 0", of(-1, 0, -1), s -> s.width(1), 0);
+    }
+
+    private static void widthOfNoWord() {
+        for (int n = 0; n <= 12; n++) {
+            for (int k : noWordsOf(n)) {
+                CHECK.keeps("width(" + k + ") of " + n, upTo(n), s -> s.width(k), -1);
+            }
         }
     }
 }

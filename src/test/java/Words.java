@@ -6,29 +6,32 @@ import java.util.List;
 final class Words {
     static final BigInteger END = BigInteger.ONE.shiftLeft(256);
     static final BigInteger HALF = BigInteger.ONE.shiftLeft(255);
+    /** The greatest word, and the words whose signed values are the least and the greatest. */
+    static final BigInteger MOST = END.subtract(BigInteger.ONE);
+    static final BigInteger SIGNED_LEAST = HALF;
+    static final BigInteger SIGNED_MOST = HALF.subtract(BigInteger.ONE);
 
     private Words() {
     }
 
-    static BigInteger word(BigInteger number) {
-        return number.mod(END);
+    /** The word that a whole number, an int, a long or a BigInteger, stands for. */
+    static BigInteger word(Number number) {
+        BigInteger whole = number instanceof BigInteger big ? big : BigInteger.valueOf(number.longValue());
+        return whole.mod(END);
     }
 
-    static BigInteger word(long number) {
-        return word(BigInteger.valueOf(number));
+    static BigInteger power(int bit) {
+        return BigInteger.ONE.shiftLeft(bit);
     }
 
     static BigInteger signed(BigInteger word) {
         return word.compareTo(HALF) < 0 ? word : word.subtract(END);
     }
 
-    static int push(WideWordStack stack, BigInteger word) {
+    static int push(WideWordStack stack, Number number) {
+        BigInteger word = word(number);
         return stack.push(word.shiftRight(192).longValue(), word.shiftRight(128).longValue(),
                 word.shiftRight(64).longValue(), word.longValue());
-    }
-
-    static int push(WideWordStack stack, long number) {
-        return push(stack, word(number));
     }
 
     static BigInteger read(WideWordStack stack, int k) {
@@ -41,7 +44,7 @@ final class Words {
     }
 
     /** A stack with these words, the first one on top. */
-    static WideWordStack stackOf(BigInteger... words) {
+    static WideWordStack stackOf(Number... words) {
         WideWordStack stack = new WideWordStack();
         for (int i = words.length - 1; i >= 0; i--) {
             push(stack, words[i]);
@@ -49,26 +52,38 @@ final class Words {
         return stack;
     }
 
-    static WideWordStack stackOf(long... numbers) {
-        BigInteger[] words = new BigInteger[numbers.length];
-        for (int i = 0; i < numbers.length; i++) {
-            words[i] = word(numbers[i]);
-        }
-        return stackOf(words);
+    /** A stack of the words 1 .. n, 1 on top. */
+    static WideWordStack upTo(int n) {
+        return stackOf(from(1, n));
     }
 
-    /** A stack of 12 words, 1 on top and 12 at the bottom. */
-    static WideWordStack full() {
-        return stackOf(1, 2, 3, 4, 5, 6, 7, 8, 9, 10, 11, 12);
+    static Number[] from(int first, int last) {
+        Number[] numbers = new Number[last - first + 1];
+        for (int i = 0; i < numbers.length; i++) {
+            numbers[i] = first + i;
+        }
+        return numbers;
     }
 
     static String stackText(WideWordStack stack) {
+        Number[] words = new Number[stack.depth()];
+        for (int k = 0; k < words.length; k++) {
+            words[k] = read(stack, k);
+        }
+        return listed(words);
+    }
+
+    /** What stackText is for a stack of these words. */
+    static String listed(Number... words) {
         StringBuilder all = new StringBuilder();
-        int depth = stack.depth();
-        for (int k = 0; k < depth; k++) {
-            all.append(k == 0 ? "" : " ").append(read(stack, k));
+        for (Number word : words) {
+            all.append(all.length() == 0 ? "" : " ").append(word(word));
         }
         return all.toString();
+    }
+
+    static String listedUpTo(int n) {
+        return listed(from(1, n));
     }
 
     static WideWordStack type(WideWordStack stack, String text) {
@@ -80,8 +95,29 @@ final class Words {
 
     static String text(WideWordStack stack) {
         StringBuilder all = new StringBuilder();
-        for (int code = stack.letter(0); code >= 0; code = stack.letter(all.length())) {
+        // One more than a text may have, so that a text too long is seen and none without an end is read.
+        int code = stack.letter(0);
+        for (int i = 1; i <= 81 && code >= 0; i++) {
             all.append((char) code);
+            code = stack.letter(i);
+        }
+        return all.toString();
+    }
+
+    /** All that can be seen of an object; reading it takes at most 131 calls. */
+    static String state(WideWordStack stack) {
+        return state(stackText(stack), text(stack));
+    }
+
+    static String state(String words, String text) {
+        return words + " | " + shown(text);
+    }
+
+    /** A text with the characters that do not print as their codes. */
+    static String shown(String text) {
+        StringBuilder all = new StringBuilder();
+        for (char c : text.toCharArray()) {
+            all.append(c > ' ' && c <= '~' && c != '<' ? String.valueOf(c) : "<" + (int) c + ">");
         }
         return all.toString();
     }
