@@ -42,8 +42,8 @@ public final class CodeTest {
     }
 
     private static void noCode(String text) {
-        CHECK.keeps("decode() of " + Words.shown(text), Words.type(Words.stackOf(1), text), WideWordStack::decode,
-                ARGUMENT);
+        CHECK.keeps("decode() of " + Words.shown(text), Words.type(Words.stackOf(1, 2), text),
+                WideWordStack::decode, ARGUMENT);
     }
 
     private static void codeSentences() {

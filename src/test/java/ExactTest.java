@@ -116,6 +116,8 @@ public final class ExactTest {
         inRange(2, true, 3, 10, -7);
         inRange(2, true, -3, -10, 7);
         inRange(2, true, -3, 10, -13);
+        inRange(2, true, 3, -10, 13);
+        inRange(2, true, 0, -10, 10);
         inRange(2, true, -3, -3, 0);
         inRange(2, true, LEAST, LEAST, 0);
     }
@@ -159,6 +161,8 @@ public final class ExactTest {
         inRange(2, true, 3, 4, -1);
         inRange(3, false, -7, 2, Words.HALF.subtract(BigInteger.valueOf(4)));
         inRange(3, true, -7, 2, -3);
+        inRange(3, false, LEAST, MOST, 0);
+        outOfRange(3, true, LEAST, MOST, GREATEST);
         inRange(4, false, -7, 4, 1);
         inRange(4, true, -7, 4, -3);
     }

@@ -34,7 +34,7 @@ public final class NumeralTest {
     }
 
     private static void noNumeral(String text, boolean hex) {
-        CHECK.keeps("parse(" + hex + ") of " + Words.shown(text), Words.type(Words.stackOf(1), text),
+        CHECK.keeps("parse(" + hex + ") of " + Words.shown(text), Words.type(Words.stackOf(1, 2), text),
                 s -> s.parse(hex), ARGUMENT);
     }
 

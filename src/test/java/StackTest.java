@@ -9,6 +9,7 @@ public final class StackTest {
     private static final String KEPT = "kept";
 
     public static void main(String[] args) {
+        CHECK.sentence("What it is: An object is used for at most 512 calls", StackTest::lastOfItsCalls);
         CHECK.sentence("Terms: A WORD is a whole number 0 .. 2^256 - 1", StackTest::leastAndGreatestWord);
         CHECK.sentence("Terms: Its LIMBS 0 .. 3 are its 64-bit parts, the highest first", StackTest::highestLimbFirst);
         CHECK.sentence("Terms: as longs (of which only the bits count)", StackTest::onlyBitsCount);
@@ -37,6 +38,21 @@ public final class StackTest {
     /** Numbers that are no word's when there are n, the nearest ones first. */
     private static int[] noWordsOf(int n) {
         return new int[] {-1, n, n + 1, -n - 1, 99, Integer.MAX_VALUE, Integer.MIN_VALUE, Integer.MIN_VALUE + 11};
+    }
+
+    /** Rounds of six calls, and two more. */
+    private static void lastOfItsCalls() {
+        WideWordStack stack = new WideWordStack();
+        for (int i = 0; i < 85; i++) {
+            stack.push(0, 0, 0, i);
+            stack.copy(0);
+            stack.wrapping(0);
+            CHECK.due("width(0) in round " + i, stack.width(0), 32 - Integer.numberOfLeadingZeros(2 * i));
+            stack.print(0, false);
+            stack.drop();
+        }
+        CHECK.due("push, call number 511", stack.push(0, 0, 0, 5), 1);
+        CHECK.due("parse(false), call number 512", stack.parse(false), 2);
     }
 
     private static void leastAndGreatestWord() {

@@ -107,6 +107,10 @@ public final class TextTest {
                     CHECK.keeps("letter(" + i + ") of " + n, of(EIGHTY.substring(0, n)), s -> s.letter(i), -1);
                 }
             }
+            // Reading a state asks for a letter that there is none of, too: so here the words alone are read.
+            WideWordStack asked = of("abc");
+            asked.letter(3);
+            CHECK.due("the words after letter(3)", Words.stackText(asked), WORDS);
             WideWordStack cleared = of("abc");
             cleared.clear();
             cleared.key('d');

@@ -157,6 +157,9 @@ public final class WrappingTest {
             row(7, 7, 3, 4, 8);
             row(7, 0, 3, 4, 1);
             row(7, LEAST, LEAST, 0, MOST);
+            row(7, 7, 3, 4, MOST);
+            row(7, 5, MOST, 0, 10);
+            row(7, 5, 0, MOST, 10);
         });
         CHECK.sentence("Terms: ADDMOD the sum not cut off", () -> {
             row(7, 1, MOST, 2, 2);
@@ -170,6 +173,9 @@ public final class WrappingTest {
             row(8, 12, 3, 4, 13);
             row(8, 0, 3, 4, 1);
             row(8, LEAST, LEAST, 1, MOST);
+            row(8, 12, 3, 4, MOST);
+            row(8, 5, MOST, 1, 10);
+            row(8, 5, 1, MOST, 10);
         });
         CHECK.sentence("Terms: MULMOD the product not cut off", () -> {
             row(8, 9, MOST, MOST, 12);
@@ -432,22 +438,26 @@ public final class WrappingTest {
             row(8, 3, 10, 3, 9);
             row(22, 40, 2, 10);
         });
-        CHECK.sentence("Terms: ISZERO (takes x alone)", () -> taken(16, 1));
-        CHECK.sentence("Terms: NOT (takes x alone)", () -> taken(20, 1));
+        CHECK.sentence("Terms: ISZERO (takes x alone)", () -> takes(16, 1));
+        CHECK.sentence("Terms: NOT (takes x alone)", () -> takes(20, 1));
         CHECK.sentence("Terms: 7 and 8 take three words", () -> {
-            taken(7, 3);
-            taken(8, 3);
+            takes(7, 3);
+            takes(8, 3);
         });
         CHECK.sentence("Terms: all others not said to take one take two", () -> {
             for (int operation = 0; operation <= 24; operation++) {
-                if (operation != 7 && operation != 8 && operation != 16 && operation != 20) {
-                    taken(operation, 2);
+                if (taken(operation) == 2) {
+                    takes(operation, 2);
                 }
             }
         });
     }
 
-    private static void taken(int operation, int words) {
+    private static int taken(int operation) {
+        return operation == 16 || operation == 20 ? 1 : operation == 7 || operation == 8 ? 3 : 2;
+    }
+
+    private static void takes(int operation, int words) {
         for (int n = words; n <= 12; n++) {
             WideWordStack stack = upTo(n);
             CHECK.due("wrapping(" + operation + ") of " + n, Check.answer(stack, s -> s.wrapping(operation)),
@@ -469,7 +479,7 @@ public final class WrappingTest {
         CHECK.sentence("Promise 9: Answers how many words there are then", () -> {
             for (int operation = 0; operation <= 24; operation++) {
                 int op = operation;
-                int least = Model.taken(op);
+                int least = taken(op);
                 CHECK.due("wrapping(" + op + ") of " + least, Check.answer(upTo(least), s -> s.wrapping(op)), 1);
                 CHECK.due("wrapping(" + op + ") of 12", Check.answer(upTo(12), s -> s.wrapping(op)), 13 - least);
             }
@@ -494,7 +504,7 @@ public final class WrappingTest {
     private static void tooFewWords() {
         for (int operation = 0; operation <= 24; operation++) {
             int op = operation;
-            for (int words = 0; words < Model.taken(op); words++) {
+            for (int words = 0; words < taken(op); words++) {
                 CHECK.keeps("wrapping(" + op + ") of " + words, upTo(words), s -> s.wrapping(op), STATE);
             }
         }
